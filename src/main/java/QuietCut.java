@@ -710,8 +710,8 @@ public final class QuietCut {
         LIMIT("limit", Shop.LIMIT, 1, 1, 9999),
         MARK("mark", Shop.MARK, 1, 0, 9999),
         TURNS("turns", Shop.TURNS, 1, 1, 12),
-        TEETH("teeth", Shop.TEETH, Shop.MOST_TEETH, 0, 15, Shop.TEETH_MANY),
-        SWAY("sway", Shop.SWAY, Shop.MOST_SWAY, 0, 9, Shop.SWAY_MANY),
+        TEETH("teeth", Shop.TEETH, Shop.MOST_TEETH, 0, 15),
+        SWAY("sway", Shop.SWAY, Shop.MOST_SWAY, 0, 9),
         FORCE("force", Shop.FORCE, "hw"),
         WALL("wall", Shop.WALL, "lg"),
         WEAR("wear", Shop.WEAR, "h");
@@ -721,21 +721,14 @@ public final class QuietCut {
         final int most;
         final int low;
         final int high;
-        // Where it is kept how many numbers there are, if that is free from 1 on; else NONE.
-        final int manySlot;
         final String letters;
 
         Clause(String word, int slot, int most, int low, int high) {
-            this(word, slot, most, low, high, NONE);
-        }
-
-        Clause(String word, int slot, int most, int low, int high, int manySlot) {
             this.word = word;
             this.slot = slot;
             this.most = most;
             this.low = low;
             this.high = high;
-            this.manySlot = manySlot;
             this.letters = "";
         }
 
@@ -745,12 +738,19 @@ public final class QuietCut {
             this.most = 0;
             this.low = 0;
             this.high = 0;
-            this.manySlot = NONE;
             this.letters = letters;
         }
 
         boolean isSum() {
             return !letters.isEmpty();
+        }
+
+        /** Where the shop keeps how many numbers there are, if that is free from 1 on; else NONE. */
+        int manySlot() {
+            if (slot == Shop.TEETH) {
+                return Shop.TEETH_MANY;
+            }
+            return slot == Shop.SWAY ? Shop.SWAY_MANY : NONE;
         }
     }
 
@@ -834,10 +834,10 @@ public final class QuietCut {
         }
 
         private int takeOfNumbers(Clause clause) {
-            boolean anyMany = clause.manySlot != NONE;
+            boolean anyMany = clause.manySlot() != NONE;
             if (tape.isSign(';') && (anyMany ? numbers > 0 : numbers == clause.most)) {
                 if (anyMany) {
-                    target.put(clause.manySlot, numbers);
+                    target.put(clause.manySlot(), numbers);
                 }
                 closeClause();
                 return 0;
@@ -861,7 +861,7 @@ public final class QuietCut {
             if (tape.value < clause.low || tape.value > clause.high) {
                 return false;
             }
-            boolean endsSpan = clause.manySlot == NONE && numbers == 1;
+            boolean endsSpan = clause.manySlot() == NONE && numbers == 1;
             return !endsSpan || tape.value >= latest && tape.value <= latest + SPAN;
         }
 
