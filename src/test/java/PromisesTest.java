@@ -6,6 +6,8 @@ public final class PromisesTest {
     // Nothing moves the tool: every pass leaves a flat ring and is quiet.
     private static final String STILL = "sectors 4;rings 2;mass 1;force 0;turns 2;";
 
+    private static final String BACK_AT_NINE = "sectors 4;rings 1;mass 1;stiff 0 0;damp 0 0;limit 9999;mark 0;turns 2;sway 3;force 5;wall l-996;";
+
     private static int promise;
     private static int wrong = 0;
     private static int looked = 0;
@@ -192,6 +194,7 @@ public final class PromisesTest {
         dueFault("h;", 1, 0);
         dueFault("5;", 1, 0);
         dueFault("massmassm 5;", 1, 0);
+        dueFault("massz 5;", 1, 0);
         dueFault("mass\t5;", 1, 4);
         dueFault("mass 5;\u00ff", 1, 7);
         dueFault("mass 5;\0", 1, 7);
@@ -248,8 +251,35 @@ public final class PromisesTest {
         dueFault("teeth 1 2 3 4 16;", 2, 14);
         dueFault("force h+h+h+h+h+h+h+h+h+h+h+h+x;", 1, 30);
         dueFault("mass 100 x", 2, 5);
+        faultsLeaveNothing();
         due("4 open at once, again and again", shop(new QuietCut(), "force ----h-----h*(-(-h))+((((w))));"), 1);
         due("12 of them", shop(new QuietCut(), "force h+h+h+h+h+h+h+h+h+h+h+h;wall l+l+l+l+l+l+l+l+l+l+l+1;"), 2);
+    }
+
+    /** What a sum with a fault had open, or waiting, is nothing to the next text. */
+    private static void faultsLeaveNothing() {
+        QuietCut q = new QuietCut();
+        due("a fault", shop(q, "force h*(w+"), NONE);
+        due("another fault", shop(q, "force h);"), NONE);
+        due("its place", q.fault(1), 7);
+        due("a fault", shop(q, "force ----"), NONE);
+        due("none", shop(q, "force ----h-2;"), 1);
+        due("tells(0, 7, 0)", q.tells(0, 7, 0), 5);
+        due("a fault", shop(q, "wear h+h+h+h+h+h+h+h+h+h+h+h"), NONE);
+        due("none", shop(q, "wear h+h+h+h+h+h+h+h+h+h+h+h;"), 1);
+        due("tells(2, 1, 0)", q.tells(2, 1, 0), 12);
+        due("untold again", shop(q, ""), 0);
+        due("tells(2, 1, 0)", q.tells(2, 1, 0), 0);
+        due("a fault", shop(q, "teeth 1 2 3;mass 0;"), NONE);
+        due("none", shop(q, "teeth 4;"), 1);
+        due("told(21)", q.told(21), NONE);
+        due("none", shop(q, "teeth 4;sway 7;wall l;wear h;force w;"), 5);
+        due("all untold again", shop(q, ""), 0);
+        due("told(20)", q.told(20), 0);
+        due("told(30)", q.told(30), 0);
+        due("tells(0, 5, 6)", q.tells(0, 5, 6), 5);
+        due("tells(1, 5, 6)", q.tells(1, 5, 6), 0);
+        due("tells(2, 5, 6)", q.tells(2, 5, 6), 0);
     }
 
     private static void p5() {
@@ -411,6 +441,7 @@ public final class PromisesTest {
         due("nothing is counted", q.count(1), 0);
         levels();
         forcesAndWalls();
+        gaps();
         swayAndTeeth();
     }
 
@@ -483,6 +514,30 @@ public final class PromisesTest {
         due("K is 1: x 3, 3, 3, 3 ..", q.passed(3), 6);
     }
 
+    /** The wall counts by the gap alone: that shows as a stiffness. The ring that is not next to it is the lowest. */
+    private static void gaps() {
+        dueGap(1190, new int[] {1000, 1200, 100}, 0, 10);
+        dueGap(1190, new int[] {100, 1200, 1000}, 2, 10);
+        dueGap(790, new int[] {1000, 800, 100}, 0, 10);
+        dueGap(790, new int[] {800, 1000, 1200}, 1, 10);
+        dueGap(790, new int[] {1200, 1000, 800}, 1, 10);
+        dueGap(1190, new int[] {800, 1000, 1200}, 1, 0);
+    }
+
+    private static void dueGap(int less, int[] heights, int ring, int k) {
+        String text = "sectors 4;rings 3;mass 1;force 50;limit 9999;mark 9999;";
+        QuietCut q = shopOf(text + "wall g-" + less + ";");
+        for (int r = 0; r < 3; r++) {
+            for (int s = 0; s < 4; s++) {
+                q.set(r, s, heights[r]);
+            }
+        }
+        q.attempt(ring, 2, 20, 1, 0, 0);
+        QuietCut plain = shopOf(text);
+        plain.attempt(0, 2, 20, 1, k, 0);
+        due("x at the end of ring " + ring + " with a wall of the gap less " + less, q.passed(4), plain.passed(4));
+    }
+
     /** x behind the second step under a wall of 9999, by a limit that ends the pass there. */
     private static int firstSwing() {
         QuietCut q = shopOf("sectors 4;rings 1;mass 99;force 99;wall 9999;limit 6;");
@@ -511,6 +566,16 @@ public final class PromisesTest {
         q.cut(0, 1, 1, 1, 0, 0);
         due("sector 3 by the second tooth", q.left(0, 3, 2), 1);
         due("sector 0 by the first", q.left(0, 0, 2), 0);
+        due("sector 1 by the first", q.left(0, 1, 2), 0);
+        q = shopOf("sectors 5;force 0;teeth 0 1;");
+        q.cut(0, 1, 1, 1, 0, 0);
+        int[] ahead = {0, 1, 1, 1, 1};
+        for (int s = 0; s < 5; s++) {
+            due("left(0, " + s + ", 2)", q.left(0, s, 2), ahead[s]);
+        }
+        due("out: the first tooth but once, the second at the end", q.passed(2), 5);
+        q.attempt(0, 1, 1, 1, 0, 0);
+        due("out is counted anew", q.passed(2), 5);
     }
 
     private static void p13() {
@@ -579,6 +644,8 @@ public final class PromisesTest {
         due("turns begun", q.passed(6), 1);
         due("time", q.passed(1) < 9 * 4 * 12 ? 1 : 0, 1);
         due("beyond the limit", q.passed(3) > 50 ? 1 : 0, 1);
+        due("a small one behind it", q.attempt(0, 1, 4, 1, 4, 0), 0);
+        due("its greatest is its own", q.passed(3), 11);
         q = shopOf(STILL + "wear h;");
         q.cut(0, 1, 3, 4, 0, 0);
         due("turns begun", q.passed(6), 4);
@@ -693,6 +760,13 @@ public final class PromisesTest {
         q.set(0, 1, 979);
         due("none", q.best(0), NONE);
         due("another ring", q.best(1), 1);
+        // Each sector has 12 steps at speed 9 alone, which take x back to 0 with K 3 (turn 0) and K 2 (turn 1).
+        q = shopOf(BACK_AT_NINE);
+        due("the last speed", q.best(0), 9);
+        due("its deepest", q.deepest(0, 9), 1);
+        due("no other's", q.deepest(0, 3), NONE);
+        bestOverTime("sectors 6;rings 1;mass 3;stiff 6 6;damp 2 3;limit 99;mark 4;turns 2;force h*2;");
+        bestOverTime("sectors 6;rings 1;mass 2;stiff 2 2;damp 3 3;limit 99;mark 3;turns 2;force h*2;");
         bestOverTime("sectors 5;rings 1;mass 3;stiff 3 4;damp 1 2;limit 300;mark 6;turns 2;sway 3 0 1;force h*2/3;");
         bestOverTime("sectors 4;rings 2;mass 9;stiff 6 8;damp 3 5;limit 300;mark 4;turns 3;force h;");
         bestOverTime("sectors 7;rings 1;mass 20;stiff 9 9;damp 9 9;limit 300;mark 3;turns 3;sway 9;force h*3;");
@@ -733,6 +807,11 @@ public final class PromisesTest {
         q = shopOf("sectors 4;rings 1;mass 1;turns 1;mark 0;force h-3-h/5*2;");
         due("plan of 4", q.plan(0, 4), NONE);
         due("plan of 3", q.plan(0, 3) > 0 ? 1 : 0, 1);
+        q = shopOf(STILL);
+        q.plan(0, 40);
+        shop(q, BACK_AT_NINE);
+        due("the last speed", q.plan(0, 2), 96);
+        due("what was quiet in the shop before is nothing", q.plan(0, 4), 192);
         due("the sway counts", shopOf("sectors 4;force 0;turns 1;sway 2 3;").plan(0, 1), 4 + 10);
         due("a piece that can't be cut so deep gives a plan all the same", lowPlan(), 4 * 20);
     }
@@ -768,6 +847,22 @@ public final class PromisesTest {
         due("planned(0)", q.planned(0), 1);
         due("planned(10)", q.planned(10), 23);
         due("planned(11)", q.planned(11), NONE);
+        // Feed 2 is not pushed; all others come back to x 0 in 3 steps: 6 at speed 3 takes the time of 2, 2, 2 at speed 1.
+        q = shopOf("sectors 4;rings 1;mass 1;stiff 3 3;damp 0 0;limit 9999;mark 0;turns 1;force h-2;");
+        due("plan of 6", q.plan(0, 6), 12);
+        due("the fewest", q.planned(0), 1);
+        due("20 times 3 and 6", q.planned(10), 66);
+        due("plan of 4", q.plan(0, 4), 8);
+        due("planned(0)", q.planned(0), 2);
+        due("plan of 8", q.plan(0, 8), 12);
+        due("planned(10)", q.planned(10), 68);
+        due("plan of 22", q.plan(0, 22), 16);
+        due("planned(0)", q.planned(0), 2);
+        due("the least first: 20 and 2", q.planned(10), 22);
+        due("then 60 and 20", q.planned(11), 80);
+        due("plan of 23", q.plan(0, 23), 20);
+        due("planned(0)", q.planned(0), 3);
+        due("planned(12)", q.planned(12), 79);
         q = shopOf("sectors 4;rings 1;mass 1;turns 1;mark 0;force h*400/2%800;");
         due("only the feeds of 4, 8, 12, 16, 20 are quiet", q.deepest(0, 1), 20);
         q.plan(0, 400);
@@ -792,35 +887,34 @@ public final class PromisesTest {
         due("no ring", q.bestTeeth(2, 1, 1, 7), RANGE);
         due("no speed", q.bestTeeth(0, 10, 1, 7), RANGE);
         due("the teeth stay", q.told(10), 1);
-        // One tooth or two that stand at one place cut the same; two that share the chips push twice a step.
-        q = shopOf("sectors 8;rings 1;mass 30;stiff 2 3;damp 4 5;limit 40;mark 5;turns 3;force h*9;teeth 7 2;");
-        int was = q.deepest(0, 3);
-        int best = NONE;
-        int most = 0;
-        int[] sets = {0x03, 0x05, 0x06, 0x11, 0x12, 0x14};
-        for (int set : sets) {
-            int d = deepestWith("sectors 8;rings 1;mass 30;stiff 2 3;damp 4 5;limit 40;mark 5;turns 3;force h*9;", set);
-            if (d > most) {
-                most = d;
-                best = set;
-            }
-        }
-        due("two of 0, 1, 2, 4", q.bestTeeth(0, 3, 2, 0x17), best);
-        due("the teeth stay", q.deepest(0, 3), was);
-        due("the teeth stay", q.told(20), 7);
+        bestOfSets("sectors 6;rings 1;mass 8;stiff 5 6;damp 2 3;limit 99;mark 7;turns 2;force h*2;", 1, 0x09);
+        bestOfSets("sectors 8;rings 1;mass 8;stiff 3 3;damp 1 2;limit 99;mark 3;turns 2;force h;", 2, 0x0C);
+        bestOfSets("sectors 8;rings 1;mass 5;stiff 2 2;damp 1 1;limit 99;mark 5;turns 2;force h*2;", 1, 0x09);
         q = shopOf("sectors 4;force 0;turns 1;mark 0;");
         q.set(0, 1, 979);
         due("none has a deepest", q.bestTeeth(0, 1, 2, 15), NONE);
     }
 
-    private static int deepestWith(String text, int set) {
-        StringBuilder teeth = new StringBuilder("teeth");
-        for (int n = 0; n < 16; n++) {
-            if ((set >> n & 1) == 1) {
-                teeth.append(' ').append(n);
+    /** Two of 0, 2, 3, 5: each set is told as the teeth of a shop of its own. */
+    private static void bestOfSets(String text, int speed, int want) {
+        int best = NONE;
+        int most = 0;
+        for (int first = 0; first < 6; first++) {
+            for (int second = first + 1; second < 6; second++) {
+                int set = 1 << first | 1 << second;
+                int deepest = shopOf(text + "teeth " + first + " " + second + ";").deepest(0, speed);
+                if ((set & 0x2D) == set && (deepest > most || deepest == most && set < best)) {
+                    most = deepest;
+                    best = set;
+                }
             }
         }
-        return shopOf(text + teeth + ";").deepest(0, 3);
+        due("the best set of " + text, best, want);
+        QuietCut q = shopOf(text + "teeth 1 2;");
+        int own = q.deepest(0, speed);
+        due("bestTeeth of " + text, q.bestTeeth(0, speed, 2, 0x2D), want);
+        due("the teeth stay", q.deepest(0, speed), own);
+        due("the teeth stay", q.told(20) * 10 + q.told(21), 12);
     }
 
     private static void p22() {
@@ -869,6 +963,11 @@ public final class PromisesTest {
         q.set(0, 2, 980);
         due("both are marked", q.order(0, 0), NONE);
         wearInOrder();
+        // The job is on ring 1, which alone is not flat.
+        q = shopOf("sectors 4;rings 2;mass 1;force 0;mark 6;turns 1;");
+        q.set(1, 2, 993);
+        q.job(1, 1, 2, 1);
+        due("ring 1", q.order(0, 0), 5);
     }
 
     // The wear of the first job moves the tool in the second: ring 1 wears nothing that counts for it.
@@ -1072,6 +1171,15 @@ public final class PromisesTest {
         q = shopOfPairs();
         q.offer(0, 2, 5, 2);
         due("the least of two that are the same", q.next() == 4 ? 1 : 0, 0);
+        // The limit is so low and the mark so high that passes are quiet or shaken, by the stiffness.
+        q = shopOf("sectors 4;rings 1;mass 1;stiff 0 3;damp 0 0;limit 1;mark 9999;turns 1;force 2-h;");
+        q.offer(0, 1, 2, 1);
+        q.offer(0, 1, 1, 1);
+        q.offer(0, 3, 1, 1);
+        int shaken = pairsWith(q, 3, 1, 1, 2) & 0x1111;
+        due("quiet and shaken alone", (pairsWith(q, 3, 1, 1, 0) | shaken) & 0x1111, 0x1111);
+        due("some of both", shaken != 0 && shaken != 0x1111 ? 1 : 0, 1);
+        due("parted by shaken", q.next() == NONE ? 1 : 0, 0);
         q = shopOf(STILL + "stiff 0 3;damp 0 3;");
         q.offer(0, 1, 1, 1);
         due("nothing is parted by what is always quiet", q.next(), NONE);
@@ -1145,6 +1253,10 @@ public final class PromisesTest {
         due("of those that there are", q.ringsOut(1, 60, 2, 0), 2);
         due("the first change of all", q.ringsOut(1, 60, 1, 0), 1);
         due("as many as there are", q.ringsOut(8, 1, 1, 0), NONE);
+        sound(q, "0 9 9 0");
+        due("the first change has gone", q.ringsOut(1, 2, 2, 0), NONE);
+        due("it is there still", q.ringsOut(1, 3, 2, 0), 3);
+        sound(q, "0 9 0 9 0 -9 20 9 0");
         due("no changes", q.ringsOut(9, 1, 1, 0), NONE);
         due("no changes", q.ringsOut(60, 60, 60, 9999), NONE);
         int[][] none = {{0, 1, 1, 0}, {61, 1, 1, 0}, {1, 0, 0, 0}, {1, 61, 1, 0}, {1, 1, 0, 0}, {1, 1, 2, 0}, {1, 1, 1, -1}, {1, 1, 1, 10000}, {1, -1, -2, 0}};
