@@ -1074,22 +1074,28 @@ public final class QuietCut {
             return force;
         }
 
+        // The innermost loop of all: it works on numbers of its own and hands them back at its end.
         private boolean swingsTooFar(int steps, int force, int hold, int damp) {
             int mass = Math.max(1, shop.numbers[Shop.MASS]);
             int limit = shop.numbers[Shop.LIMIT];
-            for (int n = 0; n < steps; n++) {
-                v += (force - hold * x - damp * v) / mass;
-                x += v;
-                time++;
-                int far = Math.abs(x);
-                if (far > farthest) {
-                    farthest = far;
-                }
-                if (far > limit) {
-                    return true;
-                }
+            int place = x;
+            int pace = v;
+            int most = farthest;
+            boolean tooFar = false;
+            int done = 0;
+            while (done < steps && !tooFar) {
+                pace += (force - hold * place - damp * pace) / mass;
+                place += pace;
+                done++;
+                int far = place < 0 ? -place : place;
+                most = far > most ? far : most;
+                tooFar = far > limit;
             }
-            return false;
+            x = place;
+            v = pace;
+            farthest = most;
+            time += done;
+            return tooFar;
         }
 
         private int gapIn(int[] from, int level) {
