@@ -863,6 +863,18 @@ public final class PromisesTest {
         due("plan of 23", q.plan(0, 23), 20);
         due("planned(0)", q.planned(0), 3);
         due("planned(12)", q.planned(12), 79);
+        // Feed 1 is quiet at speed 1, 4 to 7 at speed 2: 4, 5 takes the time of 7, 1, 1 in fewer passes.
+        q = shopOf("sectors 7;rings 1;mass 1;stiff 1 1;damp 1 1;limit 99;mark 0;turns 1;force h*2/3;wall (1000-l)/4;");
+        due("plan of 9", q.plan(0, 9), 28);
+        due("planned(0)", q.planned(0), 2);
+        due("planned(10)", q.planned(10), 44);
+        due("planned(11)", q.planned(11), 45);
+        // 1 to 5 at speed 1, 12 and 16 at speed 3, among others: 12, 16 takes the time of four passes with a deeper one.
+        q = shopOf("sectors 6;rings 1;mass 3;stiff 6 6;damp 0 0;limit 99;mark 0;turns 1;force h/2;wall (1000-l)/4;");
+        due("plan of 28", q.plan(0, 28), 36);
+        due("planned(0)", q.planned(0), 2);
+        due("planned(10)", q.planned(10), 72);
+        due("planned(11)", q.planned(11), 76);
         q = shopOf("sectors 4;rings 1;mass 1;turns 1;mark 0;force h*400/2%800;");
         due("only the feeds of 4, 8, 12, 16, 20 are quiet", q.deepest(0, 1), 20);
         q.plan(0, 400);
