@@ -776,11 +776,12 @@ public final class PromisesTest {
         QuietCut q = shopOf(text);
         int best = NONE;
         long feed = 0, time = 1;
+        int sectors = q.told(0) * q.told(9), many = q.told(11), sway = 0;
+        for (int i = 0; i < sectors; i++) {
+            sway += q.told(30 + i % many);
+        }
         for (int speed = 1; speed <= 9; speed++) {
-            long t = 0;
-            for (int i = 0; i < q.told(0) * q.told(9); i++) {
-                t += speed + q.told(30 + i % q.told(11));
-            }
+            long t = sway + (long) speed * sectors;
             long d = q.deepest(0, speed);
             if (d > 0 && d * time > feed * t) {
                 best = speed;

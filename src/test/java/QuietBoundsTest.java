@@ -296,6 +296,12 @@ public final class QuietBoundsTest {
         q = Due.shopOf("sectors 4;rings 1;mass 1;stiff 0 0;damp 0 0;limit 9999;mark 0;turns 2;sway 3;force 5;wall l-996;");
         rowIs(q, 2, 96, 181);
         rowIs(q, 4, 192, 181, 181);
+        // A FEED that is QUIET at no SPEED makes no row, though a row less by one PASS would take the same TIME.
+        rowIs(Due.shopOf("sectors 4;rings 1;mass 1;stiff 2 2;damp 1 1;limit 12;mark 1;turns 1;force (h-3)*(h-7);sway 2;"), 14, 24, 27, 27);
+        rowIs(Due.shopOf("sectors 5;rings 1;mass 3;stiff 5 5;damp 1 1;limit 1;mark 1;turns 1;force (h-3)*(h-7);wall (1000-l)/2;"), 8, 10, 23, 25);
+        rowIs(Due.shopOf("sectors 5;rings 1;mass 4;stiff 7 7;damp 3 3;limit 7;mark 3;turns 1;force h-3;wall (1000-l)/4;"), 31, 10, 33, 38);
+        rowIs(Due.shopOf("sectors 4;rings 1;mass 2;stiff 0 0;damp 0 0;limit 27;mark 2;turns 1;force h*2;wall (1000-l)/3;sway 1;"), 10, 28, 21, 89);
+        rowIs(Due.shopOf("sectors 5;rings 1;mass 3;stiff 0 0;damp 1 1;limit 12;mark 2;turns 1;force h/2;wall (1000-l)/3;"), 51, 25, 31, 31, 31, 58);
         // FEED 1 to 20 at SPEED 1: the least row begins with the least.
         q = Due.shopOf(Due.STILL);
         rowIs(q, 39, 8, 39, 40);
@@ -363,6 +369,9 @@ public final class QuietBoundsTest {
         Due.due("told(22)", q.told(22), Due.NONE);
         Due.due("none", Due.shopOf(SHAKY + "9;").bestTeeth(0, 1, 4, 0x3F), Due.NONE);
         Due.due("none, and too many", Due.shopOf(SHAKY + "9;").bestTeeth(0, 1, 4, 0x7F), Due.RANGE);
+        Due.due("a DEEPEST of 1", Due.shopOf(SHAKY + "(h-1)*9;").bestTeeth(0, 1, 1, 0x3F), 1);
+        Due.due("a DEEPEST of 1", Due.shopOf(SHAKY + "(h-1)*9;").bestTeeth(0, 9, 4, 0x8421 | 2), 0x0423);
+        Due.due("a DEEPEST of 20", Due.shopOf(SHAKY + "(h-20)*9;").bestTeeth(0, 9, 1, 0x8000), 0x8000);
         // What was cut before, by the teeth that stay: the second of 7, 3 at SECTOR 0.
         q.cut(0, 1, 1, 1, 0, 0);
         Due.due("7 modulo 4 is 3: the first tooth cuts all", q.left(0, 3, 2) + q.left(0, 0, 2), 0);

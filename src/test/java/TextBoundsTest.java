@@ -203,6 +203,15 @@ public final class TextBoundsTest {
             Due.dueFault("mass 5;" + word, 1, 7);
         }
         Due.dueFault("ma ss 5;", 1, 0);
+        for (String clause : CLAUSES) {
+            String word = clause.substring(0, clause.indexOf(' '));
+            for (int i = 0; i < word.length(); i++) {
+                Due.dueFault(word.substring(0, i) + "z" + clause.substring(i + 1), 1, 0);
+                if (i > 0) {
+                    Due.dueFault(word.substring(0, i) + " " + clause.substring(i), 1, 0);
+                }
+            }
+        }
         Due.dueFault("force hh;", 1, 6);
         Due.dueFault("force hhhhhhhhh;", 1, 6);
         Due.sentence("N (digits, as many as there are, 4 at most)");
@@ -379,6 +388,10 @@ public final class TextBoundsTest {
             Due.due("each sum has its own 12", q.tells(sum, 3, 0), -30);
         }
         Due.due("one", Due.shopOf("force w;").tells(0, 3, 4), 4);
+        // The longest and the deepest that the bounds leave.
+        Due.due("12 with four - each", Due.shopOf("force ----h" + "-----h".repeat(11) + ";").tells(0, 3, 0), -30);
+        Due.due("+ and * on each of five levels", Due.shopOf("force h+w*(h+w*(h+w*(h+w*(h+w*2))));").tells(0, 1, 3), 1 + 3 * (1 + 3 * (1 + 3 * (1 + 3 * 7))));
+        Due.due("- and % on each of five levels", Due.shopOf("force 9-w%(9-w%(9-w%(9-w%(9-w%2))));").tells(0, 1, 7), 9 - 7 % (9 - 7 % (9 - 7 % (9 - 7 % (9 - 7 % 2)))));
         Due.dueFault("force ;", 1, 6);
     }
 
