@@ -296,6 +296,9 @@ public final class QuietBoundsTest {
         q = Due.shopOf("sectors 4;rings 1;mass 1;stiff 0 0;damp 0 0;limit 9999;mark 0;turns 2;sway 3;force 5;wall l-996;");
         rowIs(q, 2, 96, 181);
         rowIs(q, 4, 192, 181, 181);
+        // The fewest, be the FEEDS of the longer row less or greater: 4, 5 is as quick as 7, 1, 1; 12, 16 as four with a deeper one.
+        rowIs(Due.shopOf("sectors 7;rings 1;mass 1;stiff 1 1;damp 1 1;limit 99;mark 0;turns 1;force h*2/3;wall (1000-l)/4;"), 9, 28, 44, 45);
+        rowIs(Due.shopOf("sectors 6;rings 1;mass 3;stiff 6 6;damp 0 0;limit 99;mark 0;turns 1;force h/2;wall (1000-l)/4;"), 28, 36, 72, 76);
         // A FEED that is QUIET at no SPEED makes no row, though a row less by one PASS would take the same TIME.
         rowIs(Due.shopOf("sectors 4;rings 1;mass 1;stiff 2 2;damp 1 1;limit 12;mark 1;turns 1;force (h-3)*(h-7);sway 2;"), 14, 24, 27, 27);
         rowIs(Due.shopOf("sectors 5;rings 1;mass 3;stiff 5 5;damp 1 1;limit 1;mark 1;turns 1;force (h-3)*(h-7);wall (1000-l)/2;"), 8, 10, 23, 25);
